@@ -659,8 +659,6 @@ public final class MillFarmers {
 
         private void stand(Farmers farmers, Terms terms, int group) {
             Arrays.fill(able, 0);
-            Arrays.fill(given, 0);
-            Arrays.fill(paid, 0);
             owedTogether = 0;
             ableTogether = 0;
             for (int i = 0; i < farmers.size; i++) {
@@ -760,7 +758,8 @@ public final class MillFarmers {
      * least hour.
      */
     private static final class Road {
-        private static final int NEVER = Integer.MAX_VALUE;
+        // Far above any hour: sixteen ways from end to end of the road take 16,000.
+        private static final int NEVER = 1000000;
         private static final int LEFT = 0;
         private static final int RIGHT = 1;
         private static final int COUNTS = MOST_VISITS + 1;

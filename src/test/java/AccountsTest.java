@@ -1,3 +1,4 @@
+import java.util.Arrays;
 import java.util.Random;
 
 /** Promises 9 and 10: of and group, by cases worked out by hand and against a plain reckoning. */
@@ -13,6 +14,7 @@ public final class AccountsTest {
         groupsApart();
         asKnown();
         greatest();
+        fullGroup();
         for (int seed = 0; seed < 400; seed++) {
             againstPlainReckoning(seed);
         }
@@ -208,6 +210,21 @@ public final class AccountsTest {
         all(x, 0, 0, 300000, 0, check);
         Check.due("given", x.of(0, 0, 6), 19500000);
         Check.due("debts left", x.group(0, 0, 3), 0);
+    }
+
+    private static void fullGroup() {
+        int[] pays = new int[40];
+        Arrays.fill(pays, 9);
+        MillFarmers x = payers(pays);
+        x.credit(39, 79, 0);
+        for (int i = 0; i < 40; i++) {
+            Check.due("given of " + i + " in forty", x.of(i, 0, 6), i < 39 ? 2 : 1);
+        }
+        together(x, 0, 0, 40, 79, 79, 0);
+        x.credit(0, 1000, 0);
+        together(x, 0, 0, 40, 1079, 360, 719);
+        Check.due("debt left of 0 in forty", x.of(0, 0, 8), 640);
+        Check.due("debt left of 39 in forty", x.of(39, 0, 8), 79);
     }
 
     private static void againstPlainReckoning(int seed) {

@@ -8,6 +8,7 @@ public final class ContractTest {
         manyClauses();
         staysAndGoes();
         lastCounts();
+        nothingOfOldOnes();
         defaults();
         Check.finish();
     }
@@ -103,6 +104,12 @@ public final class ContractTest {
         bad("prices 0 1", 0);
         bad("pric 0 1", 0);
         bad("pricequota 1", 0);
+        bad("xrice 0 1", 0);
+        bad("pricez 0 1", 0);
+        bad("price`0 1", 5);
+        bad("price{0 1", 5);
+        bad("price 0/1", 7);
+        bad("price 0:1", 7);
         bad("price", 5);
         bad("price   ", 8);
         bad("price x 1", 6);
@@ -205,6 +212,32 @@ public final class ContractTest {
         Check.due("short of 20 with 20", x.of(0, 0, 10), 0);
         Check.sign(x, "due 1 of 5;due 21 of 100", 2);
         Check.due("short of 21 with 20", x.of(0, 0, 10), 1);
+    }
+
+    private static void nothingOfOldOnes() {
+        MillFarmers x = new MillFarmers();
+        x.farmer(0, 0, 1);
+        x.farmer(0, 0, 1);
+        x.basket(0, 10, 0, 0);
+        x.credit(0, 5, 0);
+        x.credit(1, 7, 0);
+        x.bears(100);
+        for (int i = 0; i < 3; i++) {
+            Check.sign(x, "price 0 9;price 4 9;quota 1;over 1 of 2;debt 0 of 2;stand 2 of 2;due 1 of 1", 7);
+            Check.due("check of all terms", x.of(0, 0, 2), 49);
+            Check.due("off of all terms", x.of(0, 0, 3), 0);
+            Check.due("given of all terms", x.of(0, 0, 6), 12);
+            Check.due("short of all terms", x.of(0, 0, 10), 1);
+        }
+        for (int i = 0; i < 3; i++) {
+            Check.sign(x, "price 0 2", 1);
+            Check.due("check of a price alone", x.of(0, 0, 2), 20);
+            Check.due("off of a price alone", x.of(0, 0, 3), 5);
+            Check.due("given of a price alone", x.of(0, 0, 6), 0);
+            Check.due("short of a price alone", x.of(0, 0, 10), 0);
+            Check.sign(x, "price 1 2;quota 10;over 1 of 2;debt 0 of 2;stand 2 of 2;due 1 of 1", 6);
+            Check.due("check of another price", x.of(0, 0, 2), 0);
+        }
     }
 
     private static void defaults() {

@@ -6,6 +6,7 @@ public final class LedTest {
         inOrder();
         asKnown();
         wrongNumbers();
+        fullMill();
         for (int seed = 0; seed < 50; seed++) {
             weightByWeight(seed);
         }
@@ -53,6 +54,16 @@ public final class LedTest {
             Check.due("led(" + w[0] + ", " + w[1] + ")", x.led(w[0], w[1]), -1);
         }
         Check.due("led(0, 400)", x.led(0, 400), 0);
+    }
+
+    private static void fullMill() {
+        MillFarmers x = with(2);
+        for (int i = 0; i < 300; i++) {
+            x.basket(i % 2, 1000, 0, i);
+        }
+        Check.due("led(299999, 299)", x.led(299999, 299), 1);
+        Check.due("led(300000, 400)", x.led(300000, 400), -1);
+        Check.due("led(299000, 298)", x.led(299000, 298), -1);
     }
 
     private static void weightByWeight(int seed) {
