@@ -230,8 +230,9 @@ public final class AccountsTest {
     private static void againstPlainReckoning(int seed) {
         Random dice = new Random(seed);
         PlainMill plain = new PlainMill(dice, seed % 4);
-        MillFarmers x = plain.told();
         for (int day : new int[] {0, 1, 200, 400}) {
+            // A new object for each day: nothing is promised behind the 512th call.
+            MillFarmers x = plain.told();
             plain.reckon(day);
             for (int f = 0; f < plain.farmers; f++) {
                 for (int what = 0; what <= 8; what++) {

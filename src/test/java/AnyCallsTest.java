@@ -27,6 +27,7 @@ public final class AnyCallsTest {
             }
             if (dice.nextInt(12) == 0) {
                 feedPiece(x, dice);
+                continue;
             }
             sum = sum * 31 + answer(x, dice.nextInt(20), n);
         }
