@@ -43,9 +43,17 @@ public final class FaceTest {
         }
         Check.that("the public methods are those of the document, and not " + open,
                 open.equals(new TreeSet<>(Arrays.asList(METHODS))));
-        for (Method m : face.getDeclaredMethods()) {
-            Check.that(m.getName() + " is no private method with a public one's name",
+        noneNamedAlike(face, names);
+        for (Class<?> c : face.getDeclaredClasses()) {
+            noneNamedAlike(c, names);
+        }
+    }
+
+    private static void noneNamedAlike(Class<?> c, Set<String> names) {
+        for (Method m : c.getDeclaredMethods()) {
+            Check.that(c + "." + m.getName() + " is no private method with a public one's name",
                     Modifier.isPublic(m.getModifiers()) || !names.contains(m.getName()));
+            Check.that(c + "." + m.getName() + " takes at most seven numbers", m.getParameterCount() <= 7);
         }
     }
 
